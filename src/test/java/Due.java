@@ -8,6 +8,11 @@ final class Due {
         promise = name;
     }
 
+    /** What follows tests these words of the document. */
+    void sentence(String where, String words) {
+        promise = where + ", '" + words + "'";
+    }
+
     void is(String call, long got, long want) {
         asked++;
         if (got != want) {
