@@ -1,4 +1,4 @@
-/** Each promise of the document: ordinary inputs, the edges that it names, and wrong inputs. */
+/** Each promise of the document on ordinary inputs; FieldEdgesTest and RayEdgesTest have its edges. */
 public final class PromisesTest {
     private static final Due due = new Due();
 
@@ -123,7 +123,7 @@ public final class PromisesTest {
 
     private static void clear() {
         due.promise("promise 5");
-        RayField f = filled();
+        RayField f = Fields.full();
         f.ray(0, -10, 1, 100);
         due.is("met()", f.met() > 0, true);
         f.clear();
@@ -275,7 +275,7 @@ public final class PromisesTest {
         close.ray(-4000, 0, 20000, 1);
         due.is("R of little difference", close.wall(0), 1);
         due.is("R of little difference", close.wall(1), 0);
-        RayField all = filled();
+        RayField all = Fields.full();
         all.ray(5, 64, 0, -1);
         due.is("all 64", all.met(), 64);
         for (int i = 0; i < 64; i++) {
@@ -451,19 +451,10 @@ public final class PromisesTest {
         due.is("look(2)", f.look(2), 0);
         f.ray(0, 0, 1, 0);
         due.is("look(2)", f.look(2), 1);
-        RayField full = filled();
+        RayField full = Fields.full();
         due.is("look(0)", full.look(0), 64);
         due.is("look(1)", full.look(1), -1);
         full.take(40);
         due.is("look(1)", full.look(1), 40);
-    }
-
-    /** 64 level walls, number n at the height n. */
-    private static RayField filled() {
-        RayField f = new RayField();
-        for (int n = 0; n < 64; n++) {
-            due.is("put number " + n, f.put(-10, n, 10, n), n);
-        }
-        return f;
     }
 }

@@ -163,18 +163,21 @@ public final class RayEdgesTest {
         f.ray(-4000, 0, 20000, 1);
         due.is("wall(0)", f.wall(0), 1);
         due.is("wall(1)", f.wall(1), 0);
-        // A step beside their common end, the two are 1 / 2000 of a step apart.
+        // Close to their common end the two are met 1 / 4000000 of a step apart.
         RayField sharp = new RayField();
         sharp.put(2000, 1999, 0, 0);
-        sharp.put(0, 0, 2000, 1998);
-        sharp.ray(1, 0, -1, 2000);
-        due.is("sharp, met()", sharp.met(), 2);
-        due.is("sharp, wall(0)", sharp.wall(0), 1);
-        due.is("sharp, wall(1)", sharp.wall(1), 0);
-        sharp.ray(1, 1, 1, -2000);
+        sharp.put(0, 0, 1999, 1998);
+        sharp.ray(4000, -4000, -3999, 4001);
+        due.is("from below, met()", sharp.met(), 2);
+        due.is("from below, wall(0)", sharp.wall(0), 1);
+        due.is("from below, wall(1)", sharp.wall(1), 0);
+        sharp.clear();
+        sharp.put(0, 0, 1999, 1998);
+        sharp.put(2000, 1999, 0, 0);
+        sharp.ray(-3998, 4000, 3999, -3999);
         due.is("from above, met()", sharp.met(), 2);
-        due.is("from above, wall(0)", sharp.wall(0), 0);
-        due.is("from above, wall(1)", sharp.wall(1), 1);
+        due.is("from above, wall(0)", sharp.wall(0), 1);
+        due.is("from above, wall(1)", sharp.wall(1), 0);
     }
 
     private static void sameRByNumbers() {
@@ -560,10 +563,26 @@ public final class RayEdgesTest {
         due.is("just 6000", far.within(996000, 166), 1);
         due.is("just below it", far.within(995999, 166), 0);
         due.is("5999", far.within(5999, 1), 0);
+        withinAtMostOfGreatNumbers();
         RayField full = allFromTheRight();
         for (int n = 0; n <= 64; n++) {
             due.is("within(" + n + ", 1)", full.within(n, 1), n);
             due.is("within(" + 15625 * n + ", 15625)", full.within(15625 * n, 15625), n);
+        }
+    }
+
+    private static void withinAtMostOfGreatNumbers() {
+        RayField f = new RayField();
+        f.put(2000, -2000, -2000, 2000);
+        f.ray(-4000, -4000, 20000, 20000);
+        due.is("P 32000000, Q 160000000, just 1 / 5", f.within(1, 5), 1);
+        due.is("just 1 / 5", f.within(200000, 1000000), 1);
+        for (int n = 199999; n > 0; n -= 10007) {
+            due.is("within(" + n + ", 1000000)", f.within(n, 1000000), 0);
+            due.is("within(200000, " + (1000000 - n) + ")", f.within(200000, 1000000 - n), 1);
+        }
+        for (int n = 200001; n <= 1000000; n += 10007) {
+            due.is("within(" + n + ", 1000000)", f.within(n, 1000000), 1);
         }
     }
 
