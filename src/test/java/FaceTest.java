@@ -6,7 +6,7 @@ import java.lang.reflect.Modifier;
 import java.util.Set;
 import java.util.TreeSet;
 
-/** The public face of the document, and nothing beside it. */
+/** The public face of the document and nothing beside it, as LANGUAGE.md has it too. */
 public final class FaceTest {
     private static final Set<String> FACE = Set.of(
         "int put(int,int,int,int)",
@@ -50,7 +50,34 @@ public final class FaceTest {
         due.is("its parameters", constructors[0].getParameterCount(), 0);
         due.is("public constructor", Modifier.isPublic(constructors[0].getModifiers()), true);
         due.is("interfaces", RayField.class.getInterfaces().length, 0);
+        due.is("superclass " + RayField.class.getSuperclass(), RayField.class.getSuperclass() == Object.class, true);
+        languageOfTheFace(due);
         due.end();
+    }
+
+    /** What LANGUAGE.md asks of the members that are not seen. */
+    private static void languageOfTheFace(Due due) {
+        due.promise("LANGUAGE.md, rule 1");
+        Set<String> publicNames = new TreeSet<>();
+        for (Method method : RayField.class.getMethods()) {
+            publicNames.add(method.getName());
+        }
+        for (Method method : RayField.class.getDeclaredMethods()) {
+            if (!isSeen(method)) {
+                due.is(method + " has a public name", publicNames.contains(method.getName()), false);
+            }
+        }
+        for (Class<?> inside : RayField.class.getDeclaredClasses()) {
+            int modifiers = inside.getModifiers();
+            due.is(inside + " is static", Modifier.isStatic(modifiers), true);
+            due.is(inside + " is seen outside", Modifier.isPublic(modifiers) || Modifier.isProtected(modifiers), false);
+        }
+        due.promise("LANGUAGE.md, rule 5");
+        for (Field field : RayField.class.getDeclaredFields()) {
+            int modifiers = field.getModifiers();
+            boolean changes = Modifier.isStatic(modifiers) && !Modifier.isFinal(modifiers);
+            due.is(field + " is static and changes", changes, false);
+        }
     }
 
     private static boolean isSeen(Member member) {
